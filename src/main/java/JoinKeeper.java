@@ -180,7 +180,6 @@ public final class JoinKeeper {
         }
 
         boolean raise(int place, int by) {
-            // In long, since an int sum could wrap around into the range.
             long risen = (long) counts[place] + by;
             if (risen > MOST || risen < -MOST || changes >= MOST_CHANGES) {
                 return false;

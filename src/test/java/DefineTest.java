@@ -8,6 +8,8 @@ public final class DefineTest {
         bad();
         terms();
         large();
+        deepest();
+        textsLeaveNothingBehind();
         questionsStayAfterBadAndLarge();
         whatOfAQuestion();
         drop();
@@ -71,6 +73,30 @@ public final class DefineTest {
         CHECK.dueDefine("RST:(A+1)*(B+1)*(C+1)*(D+1)", LARGE);
         CHECK.dueDefine("RST:(A+1)*(B+1)*(C+1)*(D+1)*0", LARGE);
         CHECK.dueDefine("RST:0*(A+1)*(B+1)*(C+1)*(D+1)", 0);
+    }
+
+    private static void deepest() {
+        CHECK.dueDefine("R:--------A", 1);
+        CHECK.dueDefine("R:((((((((A+B))))))))", 2);
+        CHECK.dueDefine("R:-(-(-(-(A-1)-1)-1)-1)", 1);
+        CHECK.dueDefine("R:-(-(-(-(A-2)-1)-1)-1)", 2);
+        CHECK.dueDefine("R:-(-(-(-(A*A*A))))", LARGE);
+        CHECK.dueDefine("R:0*-(9*9*9*9)", LARGE);
+        CHECK.dueDefine("R:-------(A*A*A)", LARGE);
+    }
+
+    private static void textsLeaveNothingBehind() {
+        JoinKeeper keeper = new JoinKeeper();
+        String[] texts = {"R:1+A*B", "R:1", "RST:(((-", "S:B*C", "R:1?A=0?B=0/A", "T:D-C", "R:9*9*9*9", "R:A"};
+        int[] want = {2, 1, BAD, 1, 1, 2, LARGE, 1};
+        for (int i = 0; i < texts.length; i++) {
+            Check.write(keeper, texts[i]);
+            CHECK.due("define(0) of " + texts[i], keeper.define(0), want[i]);
+        }
+        CHECK.due("conditions", keeper.question(0, 4), 0);
+        CHECK.due("group", keeper.question(0, 3), -2);
+        keeper.change(0, 3, 3, 5);
+        CHECK.due("total(0)", keeper.total(0), 15);
     }
 
     private static void questionsStayAfterBadAndLarge() {

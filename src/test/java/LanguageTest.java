@@ -40,16 +40,6 @@ public final class LanguageTest {
             CHECK.holds("rule 4: import " + imports.group(1),
                 Set.of("java.util.Arrays", "java.util.ArrayList", "java.util.List").contains(imports.group(1)));
         }
-        // Rule 12 and the one room: what is made outside constructors would be counted at every call.
-        Matcher made = Pattern.compile("\\bnew (\\w+)").matcher(code);
-        while (made.find()) {
-            CHECK.holds("made in constructors and initialisers alone: " + made.group(),
-                lineAt(code, made.start()).contains("final") || lineAt(code, made.start()).matches("\\s*\\w+(\\[\\w+])? = new .*"));
-        }
-    }
-
-    private static String lineAt(String code, int place) {
-        return code.substring(code.lastIndexOf('\n', place) + 1, code.indexOf('\n', place));
     }
 
     private static void names(Class<?> owner) {
