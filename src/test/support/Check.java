@@ -1,3 +1,5 @@
+import java.util.function.ToLongFunction;
+
 /** Counts the answers that are not the ones that are due, and prints them. */
 final class Check {
     private int wrong;
@@ -14,6 +16,10 @@ final class Check {
             wrong++;
             System.out.println("does not hold: " + what);
         }
+    }
+
+    boolean isClean() {
+        return wrong == 0;
     }
 
     /** Ends the test, with exit code 1 if an answer was wrong. */
@@ -50,6 +56,13 @@ final class Check {
     /** A text whose signs can all stand but the last. */
     void dueFaultAtLast(String text) {
         dueFault(text, text.length() - 1);
+    }
+
+    /** The call answers what is due and leaves all that can be read as it was: some 320 calls. */
+    void dueNoChange(String call, JoinKeeper keeper, ToLongFunction<JoinKeeper> called, long want) {
+        String before = readAll(keeper);
+        due(call, called.applyAsLong(keeper), want);
+        holds(call + " changes nothing", readAll(keeper).equals(before));
     }
 
     /** All that can be read of the keeper, to see that a call changed nothing. */
