@@ -15,6 +15,7 @@ public final class EdgesOfAnswersTest {
         terms.test("all conditions: of one column and of several", EdgesOfAnswersTest::allConditions);
         terms.test("have g in that column: of each column", EdgesOfAnswersTest::groupsOfEachColumn);
         terms.test("a polynomial without TERMS answers 0", EdgesOfAnswersTest::noTerms);
+        terms.test("the polynomial's value, above, below and at 0", EdgesOfAnswersTest::valuesAroundZero);
         terms.test("a value 0 to the power 0, 1 and 2", EdgesOfAnswersTest::powersOfZero);
         terms.test("no such sum leaves the longs: the greatest and the least", EdgesOfAnswersTest::greatestAndLeast);
         terms.test("without '/': the same for group 0, 0 for the others", EdgesOfAnswersTest::withoutGroup);
@@ -171,6 +172,16 @@ public final class EdgesOfAnswersTest {
             check.due("answer", keeper.answer(0, group), 0);
         }
         check.due("total", keeper.total(0), 0);
+    }
+
+    private static void valuesAroundZero(Check check) {
+        for (String text : new String[] {"R:A-B", "R:-(B-A)", "R:A-B+0*A*B", "R:2*A-A-B"}) {
+            for (int a = 0; a < 6; a++) {
+                JoinKeeper keeper = defined(text, 0);
+                keeper.change(0, a, 3, 7);
+                check.due(text + " at " + a + ", 3", keeper.total(0), 7 * (a - 3));
+            }
+        }
     }
 
     private static void powersOfZero(Check check) {

@@ -145,6 +145,13 @@ public final class EdgesOfCallsTest {
         for (int call = 0; call < 200000; call++) {
             anyCall(keeper, random);
         }
+        JoinKeeper changed = new JoinKeeper();
+        for (int call = 0; call < 2000; call++) {
+            changed.change(0, 1, 1, 0);
+        }
+        for (int call = 0; call < 4000; call++) {
+            changed.back();
+        }
         check.holds("all calls came to their end", true);
     }
 

@@ -99,7 +99,8 @@ public final class EdgesOfQuestionsTest {
     }
 
     private static void notWhole(Check check) {
-        for (String text : new String[] {"", "R", "R:", "R:-", "R:(1", "R:1+", "R:1?A", "R:1/", "R:1+1+1+1+1+1+1+1+1+1+1+1+1+1+"}) {
+        for (String text : new String[] {"", "R", "R:", "R:-", "R:(1", "R:1+", "R:1?A", "R:1/",
+                "R:1+1+1+1+1+1+1+1+1+1+1+1+1+1+"}) {
             check.dueDefine(text, BAD);
         }
     }
